@@ -435,10 +435,13 @@ public final class LeastWished {
         if (building.rule.asksRides) {
             return LAW_ASKS_RIDES;
         }
-        readySearch();
-        search.wantGathered(f, those);
-        int found = search.seek(now, MOST_STATES);
-        return found < 0 ? whyNotFound() : search.depth[found];
+        Search plans = readySearch();
+        plans.wantGathered(f, those);
+        int found = plans.seek(now, MOST_STATES);
+        if (found < 0) {
+            return plans.more ? TOO_MANY : NO_WAY;
+        }
+        return plans.depth[found];
     }
 
     public int states(int n) {
@@ -448,29 +451,29 @@ public final class LeastWished {
         if (building.rule.asksRides) {
             return LAW_ASKS_RIDES;
         }
-        readySearch();
-        search.wantNothing();
-        search.seek(now, n);
-        if (search.more) {
+        Search plans = readySearch();
+        plans.wantNothing();
+        plans.seek(now, n);
+        if (plans.more) {
             return TOO_MANY;
         }
         clearRow();
-        tell(search.everHome() & building.everybody());
-        tell(search.everStopped());
-        return search.found;
+        tell(plans.everHome() & building.everybody());
+        tell(plans.everStopped());
+        return plans.found;
     }
 
     public int stuck() {
         if (building.rule.asksRides) {
             return LAW_ASKS_RIDES;
         }
-        readySearch();
-        search.wantNothing();
-        search.seek(now, MOST_STATES);
-        if (search.more) {
+        Search plans = readySearch();
+        plans.wantNothing();
+        plans.seek(now, MOST_STATES);
+        if (plans.more) {
             return TOO_MANY;
         }
-        return building.everybody() & ~search.everHome();
+        return building.everybody() & ~plans.everHome();
     }
 
     // ---- stops that were seen
@@ -819,40 +822,38 @@ public final class LeastWished {
 
     // ---- plans
 
-    private void readySearch() {
-        // Made by the first search only: most objects never search, and its rows are long.
+    // Made by the first search only: many objects never search, and its rows are long.
+    private Search readySearch() {
         if (search == null) {
             search = new Search(building);
         }
+        return search;
     }
 
     private int ridesTillHome(int those) {
         if (building.rule.asksRides) {
             return LAW_ASKS_RIDES;
         }
-        readySearch();
-        search.wantHome(those);
-        int found = search.seek(now, MOST_STATES);
+        Search plans = readySearch();
+        plans.wantHome(those);
+        int found = plans.seek(now, MOST_STATES);
         if (found < 0) {
-            return whyNotFound();
+            return plans.more ? TOO_MANY : NO_WAY;
         }
-        tellPlan(found);
-        return search.depth[found];
+        tellPlan(plans, found);
+        return plans.depth[found];
     }
 
-    private int whyNotFound() {
-        return search.more ? TOO_MANY : NO_WAY;
-    }
-
-    private void tellPlan(int found) {
+    private void tellPlan(Search plans, int found) {
+        int rides = plans.depth[found];
         int state = found;
-        for (int k = search.depth[found] - 1; k >= 0; k--) {
+        for (int k = rides - 1; k >= 0; k--) {
             if (k < PLAN_ROW) {
-                told[k] = search.taken[state];
+                told[k] = plans.taken[state];
             }
-            state = search.cameFrom[state];
+            state = plans.cameFrom[state];
         }
-        toldCount = Math.min(search.depth[found], PLAN_ROW);
+        toldCount = Math.min(rides, PLAN_ROW);
     }
 
     // ---- lies and odds
@@ -1664,13 +1665,12 @@ public final class LeastWished {
             found = 0;
             more = false;
             moment.copy(start);
-            moment.inside = 0;
             moment.rides = start.rides % DOG_RIDES;
             int first = add(keyOf(moment), 0, 0);
             if (first == 0 && isWanted(first)) {
                 return first;
             }
-            for (int k = 0; k < found && depth[k] < deepest && !more; k++) {
+            for (int k = 0; k < MOST_STATES && k < found && depth[k] < deepest && !more; k++) {
                 int goal = goOnFrom(k);
                 if (goal != NONE) {
                     return goal;

@@ -35,12 +35,14 @@ public final class OracleTest {
 
     private void run(long seed) {
         int size = 1 + draw.nextInt(3);
-        int length = 20 + draw.nextInt(60);
+        int length = 20 + draw.nextInt(60) + (draw.nextInt(10) == 0 ? 200 : 0);
         both("floors", 2 + draw.nextInt(size == 1 ? 3 : 8));
         if (draw.nextBoolean()) {
             law(LAWS[draw.nextInt(LAWS.length)]);
         }
-        if (draw.nextBoolean()) {
+        if (draw.nextInt(3) == 0) {
+            house(drawnHouse(1 + draw.nextInt(2 + 2 * size)).replaceAll("@\\d!?", draw.nextBoolean() ? "@0!" : "@0"));
+        } else if (draw.nextBoolean()) {
             house(drawnHouse(1 + draw.nextInt(2 + 2 * size)));
         } else {
             crowd(draw.nextInt(), draw.nextInt(2 + 2 * size));
@@ -115,7 +117,15 @@ public final class OracleTest {
     }
 
     private int someRider() {
-        return draw.nextInt(8) == 0 ? rider() : draw.nextInt(Math.max(1, x.count(1)));
+        int here = x.count(4) | x.count(5);
+        if (here != 0 && draw.nextInt(3) != 0) {
+            int chosen = here;
+            for (int k = draw.nextInt(Integer.bitCount(here)); k > 0; k--) {
+                chosen &= chosen - 1;
+            }
+            return Integer.numberOfTrailingZeros(chosen);
+        }
+        return draw.nextInt(6) == 0 ? rider() : draw.nextInt(Math.max(1, x.count(1)));
     }
 
     private int floor() {
@@ -273,7 +283,11 @@ public final class OracleTest {
                 house(spoilt(drawnHouse(1 + draw.nextInt(14)), "0123456789>-@!;"));
                 break;
             case 5:
-                law(spoilt(drawnLaw(0), "0123456789()fwdsnrl+-*/<>="));
+                String law = drawnLaw(0);
+                while (law.length() < 50 && draw.nextInt(3) != 0) {
+                    law += "+-*/".charAt(draw.nextInt(4)) + drawnLaw(1);
+                }
+                law(spoilt(law, "0123456789()fwdsnrl+-*/<>="));
                 break;
             case 6:
                 law(LAWS[draw.nextInt(LAWS.length)]);
