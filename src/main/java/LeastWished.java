@@ -45,7 +45,9 @@ public final class LeastWished {
     private final long[] chances = new long[MOST_FLOORS];
     private final long[] told = new long[ROW_SIZE];
     private int toldCount = 0;
-    private Search search = null;
+    private final Day today = new Day();
+    // Its rows are long: they are made with the object, and each search uses them again.
+    private final Search plans = new Search();
 
     public LeastWished() {
         for (int i = 0; i < MOST_KEPT; i++) {
@@ -251,8 +253,7 @@ public final class LeastWished {
             return -1 - flaw;
         }
         past.prepare(now);
-        Day today = new Day(building, now);
-        boolean whole = today.live(text);
+        boolean whole = today.live(building, now, text);
         if (today.deeds > 0) {
             past.commit();
         }
@@ -435,13 +436,12 @@ public final class LeastWished {
         if (building.rule.asksRides) {
             return LAW_ASKS_RIDES;
         }
-        Search plans = readySearch();
         plans.wantGathered(f, those);
-        int found = plans.seek(now, MOST_STATES);
+        int found = plans.seek(building, now, MOST_STATES);
         if (found < 0) {
             return plans.more ? TOO_MANY : NO_WAY;
         }
-        return plans.depth[found];
+        return plans.rides;
     }
 
     public int states(int n) {
@@ -451,9 +451,8 @@ public final class LeastWished {
         if (building.rule.asksRides) {
             return LAW_ASKS_RIDES;
         }
-        Search plans = readySearch();
         plans.wantNothing();
-        plans.seek(now, n);
+        plans.seek(building, now, n);
         if (plans.more) {
             return TOO_MANY;
         }
@@ -467,9 +466,8 @@ public final class LeastWished {
         if (building.rule.asksRides) {
             return LAW_ASKS_RIDES;
         }
-        Search plans = readySearch();
         plans.wantNothing();
-        plans.seek(now, MOST_STATES);
+        plans.seek(building, now, MOST_STATES);
         if (plans.more) {
             return TOO_MANY;
         }
@@ -822,38 +820,28 @@ public final class LeastWished {
 
     // ---- plans
 
-    // Made by the first search only: many objects never search, and its rows are long.
-    private Search readySearch() {
-        if (search == null) {
-            search = new Search(building);
-        }
-        return search;
-    }
-
     private int ridesTillHome(int those) {
         if (building.rule.asksRides) {
             return LAW_ASKS_RIDES;
         }
-        Search plans = readySearch();
         plans.wantHome(those);
-        int found = plans.seek(now, MOST_STATES);
+        int found = plans.seek(building, now, MOST_STATES);
         if (found < 0) {
             return plans.more ? TOO_MANY : NO_WAY;
         }
-        tellPlan(plans, found);
-        return plans.depth[found];
+        tellPlan(found);
+        return plans.rides;
     }
 
-    private void tellPlan(Search plans, int found) {
-        int rides = plans.depth[found];
+    private void tellPlan(int found) {
         int state = found;
-        for (int k = rides - 1; k >= 0; k--) {
+        for (int k = plans.rides - 1; k >= 0; k--) {
             if (k < PLAN_ROW) {
-                told[k] = plans.taken[state];
+                told[k] = plans.taken(state);
             }
-            state = plans.cameFrom[state];
+            state = plans.cameFrom(state);
         }
-        toldCount = Math.min(rides, PLAN_ROW);
+        toldCount = Math.min(plans.rides, PLAN_ROW);
     }
 
     // ---- lies and odds
@@ -1409,16 +1397,9 @@ public final class LeastWished {
 
     /** A day that is told as a text: its acts are done one by one. */
     private static final class Day {
-        private final House house;
-        private final Moment now;
         int acts = 0;
         int rides = 0;
         int deeds = 0;
-
-        Day(House house, Moment now) {
-            this.house = house;
-            this.now = now;
-        }
 
         // Places in an act: 0 its first sign, 1 first letter of i or o, 2 behind such a letter,
         // 3 letter of w, 4 wish of w, 5 behind r, 6 behind an act that can't go on.
@@ -1478,11 +1459,14 @@ public final class LeastWished {
         }
 
         /** Does the acts of a text without a flaw: whether all could be. */
-        boolean live(Text t) {
+        boolean live(House house, Moment now, Text t) {
+            acts = 0;
+            rides = 0;
+            deeds = 0;
             int start = 0;
             for (int p = 0; p <= t.size && t.size > 0; p++) {
                 if (p == t.size || t.at(p) == ';') {
-                    if (!act(t, start, p)) {
+                    if (!act(house, now, t, start, p)) {
                         return false;
                     }
                     acts++;
@@ -1492,13 +1476,13 @@ public final class LeastWished {
             return true;
         }
 
-        private boolean act(Text t, int start, int behind) {
+        private boolean act(House house, Moment now, Text t, int start, int behind) {
             switch (t.at(start)) {
                 case 'i':
                 case 'o':
-                    return pass(t, start, behind);
+                    return pass(now, t, start, behind);
                 case 'w':
-                    return wish(t.at(start + 1) - 'a', t.at(start + 2));
+                    return wish(house, now, t.at(start + 1) - 'a', t.at(start + 2));
                 default:
                     int times = start + 1 < behind ? t.at(start + 1) - '0' : 1;
                     for (int k = 0; k < times; k++) {
@@ -1510,7 +1494,7 @@ public final class LeastWished {
             }
         }
 
-        private boolean pass(Text t, int start, int behind) {
+        private boolean pass(Moment now, Text t, int start, int behind) {
             boolean inward = t.at(start) == 'i';
             for (int p = start + 1; p < behind; p++) {
                 int rider = t.at(p) - 'a';
@@ -1523,7 +1507,7 @@ public final class LeastWished {
             return true;
         }
 
-        private boolean wish(int rider, int sign) {
+        private boolean wish(House house, Moment now, int rider, int sign) {
             int wish = sign == '-' ? NONE : sign - '0';
             if (!house.hasRider(rider) || !house.canBeWish(wish)) {
                 return false;
@@ -1619,28 +1603,23 @@ public final class LeastWished {
 
     /** A search of plans: what can come, as it is found. */
     private static final class Search {
-        private static final int SLOTS = 8192;
+        private static final int SLOTS = 4096;
         private static final int WANT_NOTHING = 0;
         private static final int WANT_HOME = 1;
         private static final int WANT_GATHERED = 2;
 
-        private final House house;
         private final Moment moment = new Moment();
         private final long[] keys = new long[MOST_STATES];
-        final int[] cameFrom = new int[MOST_STATES];
-        final int[] taken = new int[MOST_STATES];
-        final int[] depth = new int[MOST_STATES];
+        // Of each state the one it came from, and in the lowest bits who was in: one row is enough for both.
+        private final int[] steps = new int[MOST_STATES];
         // In each slot the state's number and 1 more; 0 is an empty slot.
         private final int[] slots = new int[SLOTS];
         int found = 0;
+        int rides = 0;
         boolean more = false;
         private int wanted = WANT_NOTHING;
         private int wantedThose = 0;
         private int wantedFloor = 0;
-
-        Search(House house) {
-            this.house = house;
-        }
 
         void wantNothing() {
             wanted = WANT_NOTHING;
@@ -1659,36 +1638,44 @@ public final class LeastWished {
             wantedThose = those;
         }
 
-        /** The number of the first state that is as is wanted, by so many rides at most, or NONE. */
-        int seek(Moment start, int deepest) {
+        /** The number of the first state that is as is wanted, by so many rides at most, or NONE; rides: by how many. */
+        int seek(House house, Moment start, int deepest) {
             Arrays.fill(slots, 0);
             found = 0;
+            rides = 0;
             more = false;
             moment.copy(start);
             moment.rides = start.rides % DOG_RIDES;
-            int first = add(keyOf(moment), 0, 0);
-            if (first == 0 && isWanted(first)) {
-                return first;
+            int goal = add(keyOf(moment), 0, 0);
+            if (isWanted(goal)) {
+                return goal;
             }
-            for (int k = 0; k < MOST_STATES && k < found && depth[k] < deepest && !more; k++) {
-                int goal = goOnFrom(k);
-                if (goal != NONE) {
-                    return goal;
+            goal = NONE;
+            int behind = 0;
+            for (int k = 0; k < MOST_STATES && k < found && goal == NONE && !more; k++) {
+                // States lie in the order of their rides: behind the last of as many rides, one more is done.
+                if (k == behind) {
+                    if (rides >= deepest) {
+                        return NONE;
+                    }
+                    rides++;
+                    behind = found;
                 }
+                goal = goOnFrom(house, k);
             }
-            return NONE;
+            return goal;
         }
 
         /** Finds what can come from a state by one ride: the first that is wanted, or NONE. */
-        private int goOnFrom(int state) {
+        private int goOnFrom(House house, int state) {
             bringUp(keys[state]);
             int there = moment.onFloor(moment.lift);
             int sets = setsOf(there);
             int those = 0;
             for (int k = 0; k < sets && !more; k++) {
                 int stop = house.nextStop(moment, those);
-                int next = add(keyAfter(those, stop), state, those);
-                if (next != NONE && isWanted(next)) {
+                int next = add(keyAfter(those, house.homeAt(those, stop), stop), state, those);
+                if (isWanted(next)) {
                     return next;
                 }
                 those = nextSet(those, there);
@@ -1721,9 +1708,8 @@ public final class LeastWished {
             return (int) ((key >>> (4 * MOST_RIDERS)) & 15);
         }
 
-        /** The key of what comes from the moment by a ride of those to a stop. */
-        private long keyAfter(int those, int stop) {
-            int home = house.homeAt(those, stop);
+        /** The key of what comes from the moment by a ride of those to a stop, where some of them are at home. */
+        private long keyAfter(int those, int home, int stop) {
             long key = ((long) ((moment.rides + 1) % DOG_RIDES) << 4) | stop;
             for (int i = MOST_RIDERS - 1; i >= 0; i--) {
                 int floor = ((those >> i) & 1) == 0 ? moment.at[i] : stop;
@@ -1734,7 +1720,7 @@ public final class LeastWished {
 
         /** The number of a state that is new, or NONE: it is known, or there is no room. */
         private int add(long key, int parent, int those) {
-            int slot = (int) ((key * 0x9E3779B97F4A7C15L) >>> 51) & (SLOTS - 1);
+            int slot = (int) ((key * 0x9E3779B97F4A7C15L) >>> 52) & (SLOTS - 1);
             for (int k = 0; k < SLOTS && slots[slot] != 0; k++) {
                 if (keys[slots[slot] - 1] == key) {
                     return NONE;
@@ -1746,15 +1732,30 @@ public final class LeastWished {
                 return NONE;
             }
             keys[found] = key;
-            cameFrom[found] = parent;
-            taken[found] = those;
-            depth[found] = found == 0 ? 0 : depth[parent] + 1;
+            steps[found] = (parent << MOST_RIDERS) | those;
             slots[slot] = found + 1;
             found++;
             return found - 1;
         }
 
+        private boolean isState(int state) {
+            return state >= 0 && state < found;
+        }
+
+        /** The state from which a state was found first. */
+        int cameFrom(int state) {
+            return isState(state) ? steps[state] >> MOST_RIDERS : 0;
+        }
+
+        /** Who was in, on the ride by which a state was found first (bits). */
+        int taken(int state) {
+            return isState(state) ? steps[state] & ((1 << MOST_RIDERS) - 1) : 0;
+        }
+
         private boolean isWanted(int state) {
+            if (!isState(state)) {
+                return false;
+            }
             long key = keys[state];
             if (wanted == WANT_HOME) {
                 return (wantedThose & ~onFloor(key, NONE)) == 0;

@@ -21,6 +21,8 @@ public final class LanguageTest {
         "\\bsynchronized\\b", "\\bString\\b", "\\bSystem\\.(?!arraycopy)", "\\bdouble\\b", "\\bfloat\\b", "\\w+Exact\\b",
         "\\bequals\\b", "\\bhashCode\\b", "\\btoString\\b", "\\bRandom\\b", "\\bThread\\b", "\\bObject\\b", "\\[\\]\\[\\]"};
 
+    private static final Pattern MADE = Pattern.compile("\\bnew (?!NoSuchElementException\\()|\\bclone\\(|\\bcopyOf");
+
     public static void main(String[] args) throws IOException {
         List<String> lines = Files.readAllLines(SOURCE);
         Set<String> names = faceIsTheDocuments();
@@ -99,8 +101,18 @@ public final class LanguageTest {
             }
             CHECK.due(m.group(3) + " has too many lines", k - i + 1 > 60, false);
             CHECK.due(m.group(3) + " has too many parameters", m.group(4).split(",").length > 7, false);
+            makesNothing(m.group(3), lines.subList(i, k));
             boolean ofFace = m.group(2).contains("public");
             CHECK.due(m.group(3) + " bears a public name", !ofFace && names.contains(m.group(3)), false);
+        }
+    }
+
+    /** Rule 12: rows and objects are made in constructors and used again; a call makes an exception at most. */
+    private static void makesNothing(String method, List<String> body) {
+        boolean isConstructor = Character.isUpperCase(method.charAt(0));
+        for (String line : body) {
+            boolean makes = MADE.matcher(withoutComment(line)).find();
+            CHECK.due(method + " makes something: " + line.strip(), makes && !isConstructor, false);
         }
     }
 
