@@ -1,6 +1,8 @@
 import java.util.ArrayList;
 import java.util.Arrays;
+import java.util.LinkedHashMap;
 import java.util.List;
+import java.util.Map;
 import java.util.NoSuchElementException;
 
 /** What the tests share: texts told sign by sign, answers compared, a closing line. */
@@ -8,6 +10,10 @@ final class Check {
     private final String name;
     private int checks = 0;
     private int wrong = 0;
+    // What checks are about: words of the document, by the heading under which they stand there.
+    private final Map<String, List<String>> quotes = new LinkedHashMap<>();
+    private String about = "";
+    private int checksBefore = 0;
 
     Check(String name) {
         this.name = name;
@@ -62,11 +68,33 @@ final class Check {
         return row;
     }
 
+    /** From here on checks are about these words of the document, which stand there under that heading. */
+    void says(String heading, String words) {
+        sentenceHasChecks();
+        quotes.computeIfAbsent(heading, h -> new ArrayList<>()).add(words);
+        about = heading + ", \"" + words + "\": ";
+    }
+
+    Map<String, List<String>> quotes() {
+        return quotes;
+    }
+
+    private void sentenceHasChecks() {
+        if (!about.isEmpty() && checks == checksBefore) {
+            fail("nothing is checked");
+        }
+        checksBefore = checks;
+    }
+
+    private void fail(String what) {
+        wrong++;
+        System.out.println(name + ": " + about + what);
+    }
+
     void due(String what, long got, long want) {
         checks++;
         if (got != want) {
-            wrong++;
-            System.out.println(name + ": " + what + " answered " + got + ", due is " + want);
+            fail(what + " answered " + got + ", due is " + want);
         }
     }
 
@@ -82,8 +110,20 @@ final class Check {
         }
         List<Long> got = rowOf(x);
         if (!got.equals(due)) {
-            wrong++;
-            System.out.println(name + ": the row of " + what + " is " + got + ", due is " + Arrays.toString(want));
+            fail("the row of " + what + " is " + got + ", due is " + Arrays.toString(want));
+        }
+    }
+
+    /** An answer and the row that is told with it. */
+    void told(String what, long got, long want, LeastWished x, long... row) {
+        due(what, got, want);
+        row(what, x, row);
+    }
+
+    void same(String what, String got, String want) {
+        checks++;
+        if (!got.equals(want)) {
+            fail(what + " left\n  " + got + "\ndue is\n  " + want);
         }
     }
 
@@ -91,14 +131,14 @@ final class Check {
         checks++;
         try {
             long got = call.answer();
-            wrong++;
-            System.out.println(name + ": " + what + " answered " + got + ", due is NoSuchElementException");
+            fail(what + " answered " + got + ", due is NoSuchElementException");
         } catch (NoSuchElementException e) {
             // as is due
         }
     }
 
     void end() {
+        sentenceHasChecks();
         System.out.println(name + ": " + checks + " checks, " + wrong + " wrong");
         if (wrong != 0 || checks == 0) {
             System.exit(1);
