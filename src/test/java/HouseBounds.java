@@ -95,6 +95,14 @@ final class HouseBounds {
         CHECK.due("three", x.count(11), 3);
         x.law();
         CHECK.due("the first three", x.worthOf(0), 123);
+        Check.text(x, "1>0@0!");
+        x.end(5);
+        CHECK.due("a line without the ! that was cut off", x.house(), 1);
+        CHECK.due("one that is not in", x.count(4), 0);
+        Check.text(x, "r9");
+        x.end(1);
+        x.day();
+        CHECK.due("an r without the digit that was cut off", x.count(3), 1);
         Check.text(x, "1>1>".repeat(20));
         CHECK.due("end(80) of 80", x.end(80), true);
         CHECK.due("end(0) of 80", x.end(0), true);

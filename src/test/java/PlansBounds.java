@@ -174,6 +174,8 @@ final class PlansBounds {
         CHECK.told("one is at home already", x.states(0), 1, x, 1, 2);
         LeastWished ten = Check.lift(9, TermsBounds.TEN);
         CHECK.told("ten can be at home", ten.states(1), 1025, ten, 1023, 3);
+        CHECK.due("behind a search that ends early", ten.one(0) * 10000 + ten.states(1), 11025);
+        CHECK.due("behind one that ends at once", ten.gather(0, 1023) * 10000 + ten.states(1), 1025);
         Check.law(ten, "-f");
         CHECK.told("the highest floor", ten.states(1), 1025, ten, 0, 1 + 256);
         quiet("states(6)", y -> y.states(6));
@@ -204,6 +206,7 @@ final class PlansBounds {
         LeastWished home = Check.lift(3, "1>-@0!");
         home.ride();
         CHECK.due("one that is at home is not", home.stuck(), 0);
+        CHECK.due("behind a search that ends at once", home.one(0) + home.stuck(), 0);
         home.set(0, 0, 2);
         CHECK.due("though its home is where it could not come", home.stuck(), 0);
         LeastWished tenth = Check.lift(9, TermsBounds.TEN.replace("@0", "@8"));
@@ -211,6 +214,10 @@ final class PlansBounds {
         Twins.nothing(CHECK, "stuck()", Twins::full, LeastWished::stuck);
         CHECK.says("Promise 34", "-3, -4.");
         CHECK.due("just 3000", planned(3, JUST, "w", 0).stuck(), 1);
+        LeastWished later = planned(3, JUST, "w", 0);
+        Check.day(later, "r9;r5");
+        CHECK.due("14 rides later the lift is there again", later.count(2), 0);
+        CHECK.due("and nothing is left of 14 by 7: just 3000", later.stuck(), 1);
         Twins.nothing(CHECK, "3001", () -> planned(4, MORE, "s-w", 0), y -> CHECK.due("3001", y.stuck(), -3));
         Twins.nothing(CHECK, "by r", () -> planned(4, MORE, "s-w+0*r", 0), y -> CHECK.due("by r", y.stuck(), -4));
         LeastWished nobody = new LeastWished();

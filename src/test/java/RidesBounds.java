@@ -21,6 +21,7 @@ final class RidesBounds {
         undo();
         undoOfTwenty();
         undoOfWhatDidSomething();
+        undoBehindNothing();
         undoRefused();
         undoForgotten();
     }
@@ -351,9 +352,30 @@ final class RidesBounds {
         LeastWished x = Twins.full();
         Check.day(x, "obc");
         CHECK.due("a day of one letter did something", x.count(8), 3);
+        Check.day(x, "obc");
+        CHECK.due("the same day again did nothing", x.count(8), 3);
+        Check.day(x, "");
+        CHECK.due("nor did an empty one", x.count(8), 3);
         LeastWished y = new LeastWished();
         y.ride();
         CHECK.due("a ride with nobody did something", y.count(8), 1);
+    }
+
+    /** Of twenty that can be undone the oldest stays, whatever did nothing since. */
+    private static void undoBehindNothing() {
+        Twins.Act[] nothing = {x -> x.rides(0), x -> x.rides(60), x -> Check.day(x, ""), x -> Check.day(x, "oa"), x -> x.enter(0),
+            x -> x.leave(0)};
+        for (int k = 0; k < nothing.length; k++) {
+            LeastWished x = new LeastWished();
+            for (int ride = 1; ride <= 20; ride++) {
+                x.ride();
+            }
+            nothing[k].on(x);
+            for (int left = 19; left >= 0; left--) {
+                CHECK.due("undo() behind nothing " + k, x.undo(), left);
+                CHECK.due("rides", x.count(3), left);
+            }
+        }
     }
 
     private static void undoRefused() {

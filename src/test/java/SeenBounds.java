@@ -137,6 +137,14 @@ final class SeenBounds {
         x.forget();
         x.saw(0, 1, 2);
         CHECK.due("1 alone", x.fits(0), 2);
+        LeastWished floors = wishing("1");
+        floors.saw(2, 1, 0);
+        floors.saw(0, 1, 2);
+        CHECK.due("1 by both, from two floors", floors.fits(0), 2);
+        floors.saw(1, 1, 0);
+        CHECK.due("and from the third", floors.fits(0), 2);
+        floors.saw(1, 1, 2);
+        CHECK.due("none by both from 1", floors.fits(0), 0);
         LeastWished nine = Check.lift(9, "0>-@0");
         Check.law(nine, "w+(f<8)");
         nine.saw(0, 1, 1);
@@ -157,12 +165,17 @@ final class SeenBounds {
         CHECK.told("nothing seen, nobody", nobody.lies(), 0, nobody, 0);
         LeastWished x = wishing("121");
         x.saw(0, 4, 2);
-        CHECK.told("all is so", x.lies(), 0, x, 0);
+        x.goes(0);
+        CHECK.told("all is so, behind a longer row", x.lies(), 0, x, 0);
         x.saw(0, 2, 2);
         CHECK.told("one lies", x.lies(), 1, x, 2, 1);
         x.forget();
         x.saw(0, 4, 1);
         CHECK.told("one had none", x.lies(), 1, x, 4, -1);
+        x.forget();
+        x.saw(2, 4, 0);
+        x.saw(1, 1, 2);
+        CHECK.told("from two floors", x.lies(), 1, x, 1, 0);
         LeastWished ten = wishing("1111111111");
         ten.saw(0, 512, 1);
         CHECK.told("the tenth", ten.lies(), 1, ten, 512, -1);
@@ -236,6 +249,11 @@ final class SeenBounds {
         CHECK.due("none by 1", x.truly(1), 0);
         x.saw(0, 4, 1);
         CHECK.due("two others would be needed", x.truly(2), 0);
+        LeastWished floors = wishing("12");
+        floors.saw(2, 1, 0);
+        floors.saw(0, 1, 2);
+        CHECK.due("from two floors: a by 1; b by any, as a has told it", floors.truly(1), 3);
+        CHECK.due("from two floors: not a by 2", floors.truly(2), 2);
         Twins.nothing(CHECK, "truly(1)", Twins::full, y -> y.truly(1));
         CHECK.says("Promise 40", "NONE: no such FLOOR.");
         for (int f : new int[] {5, 9, -1, LEAST, MOST}) {

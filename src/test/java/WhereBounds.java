@@ -60,6 +60,12 @@ final class WhereBounds {
         CHECK.told("all ten", ten.goes(1023), 1, ten, 0, 0);
         LeastWished nobody = new LeastWished();
         CHECK.told("nobody", nobody.goes(0), 1, nobody, 0, 0);
+        LeastWished dog = Check.lift(3, "1>1@0;1>2@0");
+        dog.dog(2);
+        Check.day(dog, "r6");
+        Check.law(dog, "w+s+r");
+        CHECK.told("the dog decides, the law is told all the same", dog.goes(1), 2, dog, 7, 7, 6);
+        CHECK.told("and anew, by others", dog.goes(2), 2, dog, 7, 6, 7);
         quiet("goes(18)", y -> y.goes(18));
         CHECK.says("Promise 19", "-2: bits of others.");
         for (int those : new int[] {1, 4, 8, 32, 3, 2 + 32, 512, 1024, LEAST, MOST, -1, -2}) {
@@ -100,6 +106,8 @@ final class WhereBounds {
         dog.dog(2);
         Check.day(dog, "r6");
         CHECK.told("the dog's in each way", dog.can(), 4, dog, 0, 0, 4);
+        LeastWished apart = Check.lift(3, "0>1@2;0>2@0;0>1@0");
+        CHECK.told("the first is elsewhere", apart.can(), 6, apart, 0, 3, 1);
         quiet("can()", LeastWished::can);
     }
 
@@ -114,6 +122,9 @@ final class WhereBounds {
         CHECK.told("besides one that is in", x.along(3), 1, x, 2);
         CHECK.told("it is so by who is in", x.along(2), 0, x, 0);
         CHECK.told("none can outweigh it", x.along(1), -2, x, 0);
+        LeastWished in = Check.lift(3, "0>1@0!;0>2@0;0>1@0");
+        CHECK.told("the first is in: none is needed", in.along(2), 0, in, 0);
+        CHECK.told("the first is in: the second", in.along(1), 1, in, 2);
         LeastWished ten = Check.lift(3, TermsBounds.TEN);
         Check.law(ten, "(f=1)*(n=10)");
         CHECK.told("all ten", ten.along(2), 10, ten, 1023);
@@ -141,6 +152,9 @@ final class WhereBounds {
         CHECK.due("where the lift is", x.without(0), -2);
         x.leave(0);
         CHECK.told("one stands already", x.without(1), 1, x, 4);
+        LeastWished stands = Check.lift(3, "0>1@0;0>1@0!;0>2@0!");
+        CHECK.told("the first stands: none is needed", stands.without(1), 0, stands, 0);
+        CHECK.told("the first stands: the third", stands.without(2), 1, stands, 4);
         LeastWished ten = Check.lift(3, TermsBounds.TEN.replace("@0", "@0!"));
         Check.law(ten, "(f=1)*(n=0)");
         CHECK.told("all ten", ten.without(2), 10, ten, 1023);
