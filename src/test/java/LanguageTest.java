@@ -40,26 +40,30 @@ public final class LanguageTest {
         Matcher m = Pattern.compile("public (\\w+) (\\w+)\\(([^)]*)\\)( throws NoSuchElementException)?;").matcher(face);
         while (m.find()) {
             names.add(m.group(2));
-            due.add(m.group(1) + " " + m.group(2) + " " + (m.group(3).isBlank() ? 0 : m.group(3).split(",").length)
-                    + (m.group(4) == null ? "" : " throws"));
+            String types = m.group(3).replaceAll("(\\w+) \\w+", "$1").replace(" ", "");
+            due.add("public " + m.group(1) + " " + m.group(2) + "(" + types + ")"
+                    + (m.group(4) == null ? "" : " throws java.util.NoSuchElementException"));
         }
         Set<String> got = new TreeSet<>();
         for (Method method : LeastWished.class.getDeclaredMethods()) {
             if (!Modifier.isPrivate(method.getModifiers())) {
-                got.add(method.getReturnType() + " " + method.getName() + " " + method.getParameterCount()
-                        + (method.getExceptionTypes().length == 0 ? "" : " throws"));
+                got.add(method.toString().replace("LeastWished.", ""));
             }
         }
         CHECK.due("methods of the face", due.size(), 46);
         CHECK.due("the face is " + got, got.equals(due), true);
-        int open = 0;
+        Set<String> open = new TreeSet<>();
         for (Field f : LeastWished.class.getDeclaredFields()) {
-            open += Modifier.isPrivate(f.getModifiers()) ? 0 : 1;
+            if (!Modifier.isPrivate(f.getModifiers())) {
+                open.add(f.toString());
+            }
         }
-        CHECK.due("constants of the face", open, 1);
+        CHECK.due("the face has " + open, open.equals(Set.of("public static final int LeastWished.NONE")), true);
+        CHECK.due("NONE", LeastWished.NONE, -1);
         Constructor<?>[] made = LeastWished.class.getDeclaredConstructors();
         CHECK.due("constructors", made.length, 1);
-        CHECK.due("final", Modifier.isFinal(LeastWished.class.getModifiers()), true);
+        CHECK.due(made[0] + " is the document's", made[0].toString().equals("public LeastWished()"), true);
+        CHECK.due("public and final", LeastWished.class.getModifiers(), Modifier.PUBLIC | Modifier.FINAL);
         return names;
     }
 
@@ -121,6 +125,7 @@ public final class LanguageTest {
         CHECK.due("too many classes", inside.length > 11, false);
         for (Class<?> c : inside) {
             CHECK.due(c.getName() + " is static", Modifier.isStatic(c.getModifiers()), true);
+            CHECK.due(c.getName() + " is open", (c.getModifiers() & (Modifier.PUBLIC | Modifier.PROTECTED)) != 0, false);
             fields(c);
         }
         fields(LeastWished.class);
